@@ -824,20 +824,18 @@ public final class NameTurner {
         }
 
         private boolean hasWay(int item, int i, Place place, int at) {
-            if (item == '*' && isWay(i + 1, at)) {
-                return true;
+            if (item == '*') {
+                return isWay(i + 1, at) || (at < place.length && isWay(i, at + 1));
             }
-            if (at >= place.length || !takes(item, place.byteAt(at))) {
+            if (!takes(item, place.byteAt(at))) {
                 return false;
             }
-            boolean mayGoOn = item == '*' || item == '#';
-            return item != '*' && isWay(i + 1, at + 1) || mayGoOn && isWay(i, at + 1);
+            return isWay(i + 1, at + 1) || (item == '#' && isWay(i, at + 1));
         }
 
         private static boolean takes(int item, int b) {
             switch (item) {
-                case '?':
-                case '*': return b != NONE;
+                case '?': return b != NONE;
                 case '#': return Signs.isFigure(b);
                 default: return item == b;
             }

@@ -224,6 +224,11 @@ public final class PromisesTest {
         a.due("9: all bytes", Answers.rule(x, "azAZ09.-_>azAZ09.-_"), 9);
         a.due("9: > is the 13th byte", Answers.rule(x, "abcdefghijkl>x"), 12);
         a.due("9: items", Answers.rule(x, "?a#>$2"), 3);
+        Answers.rule(x, "??>$2");
+        Answers.rule(x, "??>$2");
+        a.due("9: an earlier rule's items", Answers.rule(x, "?>$2"), -4);
+        Answers.rule(x, "??>$2");
+        a.due("9: an earlier rule's items", Answers.rule(x, "?>$2"), -4);
     }
 
     private static void fault(String text, int answer, int place) {
@@ -559,6 +564,8 @@ public final class PromisesTest {
         newNameDue("a", "*>%4", 0, "0000");
         newNameDue("a", "*>%1", 0, "0");
         newNameDue("a", "*>%2", 10, "10");
+        newNameDue("a", "*>%1", 10, "10");
+        newNameDue("a", "*>%2", 100, "100");
         newNameDue("a", "*>%2", 999, "999");
         newNameDue("abcdefgh", "*>$1$1", 1, "abcdefghabcd");
         newNameDue("ab", "a*b>$1", 1, "");
@@ -568,6 +575,9 @@ public final class PromisesTest {
         Answers.rule(x, "*>%4");
         x.plan(0, 0, 999, 99, false);
         a.due("14: over 999", Answers.newName(x, 1), "1098");
+        Answers.rule(x, "*>%3");
+        x.plan(0, 0, 999, 1, false);
+        a.due("14: just 1000", Answers.newName(x, 1), "1000");
         a.due("14: behind the end", x.newName(0, 4), NONE);
         a.due("14: -1", x.newName(0, -1), NONE);
         a.due("14: no such one", x.newName(2, 0), NONE);
@@ -586,6 +596,12 @@ public final class PromisesTest {
         a.due("15: two", x.steps(), 2);
         plan(x, "q>x");
         a.due("15: none planned", x.steps(), 0);
+        NameTurner one = with("b", "bb", "c");
+        plan(one, "b*>c$1");
+        a.due("15: one of two has trouble", one.count(5), 1);
+        a.due("15: trouble of one is enough", one.steps(), -2);
+        a.due("15: no step", one.step(0, 0), NONE);
+        a.due("15: no going", one.go(1), NONE);
     }
 
     private static void promise16() {
@@ -621,13 +637,25 @@ public final class PromisesTest {
         stepsDue(folding("Ab"), "*>!1", 1, false, "0");
         stepsDue(with("ab", "ba"), "??>^2$1", 1, false, "0 1");
         stepsDue(folding("ab", "ba"), "??>^2$1", 1, false, "0~ 1 ~0");
+        NameTurner again = with("2", "1");
+        stepsDue(again, "#>%1", 1, false, "0~ 1 ~0");
+        stepsDue(again, "#>$1x", 1, false, "0 1");
+        stepsDue(again, "#>%1", 1, false, "0~ 1 ~0");
+        again.go(3);
+        stepsDue(again, "#>%1", 2, false, "1 0");
+        stepsDue(again, "#>%1", 1, false, "");
         NameTurner x = new NameTurner();
-        for (int i = 0; i < 40; i++) {
-            Answers.file(x, 0, (i % 2 == 0 ? "a" : "") + "x" + i / 2 + (i % 2 == 0 ? "" : "a"));
+        for (char c = 'b'; c <= 'u'; c++) {
+            Answers.file(x, 0, "a" + c);
+            Answers.file(x, 0, c + "a");
         }
-        Answers.rule(x, "??*>$2$1$3");
-        x.plan(0, 1, 1, 1, false);
-        a.due("16: 40 to another folder", x.steps(), 40);
+        Answers.rule(x, "??>$2$1");
+        a.due("16: 40 in twenty rings", x.plan(0, 0, 1, 1, false), 40);
+        a.due("16: three steps a ring", x.steps(), 60);
+        a.due("16: all are done", x.go(60), 60);
+        a.due("16: the last one", Answers.of(x, 39), "0/au");
+        a.due("16: and taken back", x.back(60), 60);
+        a.due("16: as at first", Answers.of(x, 39), "0/ua");
     }
 
     private static void promise17() {
@@ -709,6 +737,11 @@ public final class PromisesTest {
         x.remove(0);
         x.back(1);
         a.due("19: no more first", x.stuck(), 1);
+        x.back(0);
+        a.due("19: back(0)", x.stuck(), 0);
+        x.back(1);
+        x.back(-1);
+        a.due("19: NONE leaves it", x.stuck(), 1);
         NameTurner y = folding("a");
         plan(y, "a>b");
         Answers.file(y, 0, "B");

@@ -69,6 +69,8 @@ public final class SameAsPlainTest {
             counts();
         }
         lookAround();
+        farNumbers();
+        lookAround();
     }
 
     private void act(int which) {
@@ -237,6 +239,37 @@ public final class SameAsPlainTest {
             for (int what = -1; what < 24; what++) {
                 same("of(" + file + ", " + what + ")", ofClass(file, what), ofPlain(file, what));
             }
+        }
+    }
+
+    /** Numbers far off every bound: nothing but the document's exception may come out of a call. */
+    private void farNumbers() {
+        int[] far = {Integer.MIN_VALUE, Integer.MIN_VALUE + 9, -3, 40, 81, Integer.MAX_VALUE - 9, Integer.MAX_VALUE};
+        for (int m : far) {
+            for (int n : far) {
+                same("fits(" + m + ", " + n + ")", x.fits(m, n), y.fits(m, n));
+                same("fits(0, " + n + ")", x.fits(0, n), y.fits(0, n));
+                same("planned(" + m + ", " + n + ")", x.planned(m, n), y.planned(m, n));
+                same("planned(0, " + n + ")", x.planned(0, n), y.planned(0, n));
+                same("newName(" + m + ", " + n + ")", x.newName(m, n), y.newName(m, n));
+                same("newName(0, " + n + ")", x.newName(0, n), y.newName(0, n));
+                same("step(" + m + ", " + n + ")", x.step(m, n), y.step(m, n));
+                same("linkOf(" + m + ", " + n + ")", x.linkOf(m, n), y.linkOf(m, n));
+                same("linkOf(0, " + n + ")", x.linkOf(0, n), y.linkOf(0, n));
+                same("of(" + m + ", " + n + ")", ofClass(m, n), ofPlain(m, n));
+                same("of(0, " + n + ")", ofClass(0, n), ofPlain(0, n));
+                same("hand(" + m + ", " + n + ")", x.hand(m, n), y.hand(m, n));
+                same("plan(" + m + ", 0, 0, " + n + ", true)", x.plan(m, 0, 0, n, true), y.plan(m, 0, 0, n, true));
+                same("plan(0, " + m + ", " + n + ", 1, true)", x.plan(0, m, n, 1, true), y.plan(0, m, n, 1, true));
+            }
+            same("end(" + m + ")", x.end(m), y.end(m));
+            same("count(" + m + ")", x.count(m), y.count(m));
+            same("file(" + m + ")", x.file(m), y.file(m));
+            same("at(" + m + ")", x.at(m), y.at(m));
+            same("link(" + m + ")", x.link(m), y.link(m));
+            same("remove(" + m + ")", x.remove(m) ? 1 : 0, y.remove(m) ? 1 : 0);
+            same("go(" + m + ")", x.go(m), y.go(m));
+            same("back(" + m + ")", x.back(m), y.back(m));
         }
     }
 
