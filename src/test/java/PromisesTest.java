@@ -1,6 +1,5 @@
 /** Each promise of the document by its number: ordinary inputs, the edges, wrong inputs. */
-public final class PromisesTest {
-    private static final int NONE = NameTurner.NONE;
+public final class PromisesTest extends Calls {
     private static final Answers a = new Answers();
 
     public static void main(String[] args) {
@@ -38,29 +37,6 @@ public final class PromisesTest {
         a.finish("PromisesTest");
     }
 
-    /** A store with the names as files 0 and on of folder 0. */
-    private static NameTurner with(String... names) {
-        NameTurner x = new NameTurner();
-        for (String name : names) {
-            Answers.file(x, 0, name);
-        }
-        return x;
-    }
-
-    private static NameTurner folding(String... names) {
-        NameTurner x = new NameTurner();
-        x.folds(true);
-        for (String name : names) {
-            Answers.file(x, 0, name);
-        }
-        return x;
-    }
-
-    private static int plan(NameTurner x, String rule) {
-        Answers.rule(x, rule);
-        return x.plan(0, 0, 1, 1, false);
-    }
-
     private static void promise1() {
         NameTurner x = new NameTurner();
         for (int what = 0; what <= 9; what++) {
@@ -79,18 +55,18 @@ public final class PromisesTest {
         NameTurner x = new NameTurner();
         a.due("2: folds(true)", x.folds(true), true);
         a.due("2: count(2)", x.count(2), 1);
-        a.due("2: file Ab", Answers.file(x, 0, "Ab"), 0);
-        a.due("2: aB is alike", Answers.file(x, 0, "aB"), -2);
+        a.due("2: file Ab", file(x, 0, "Ab"), 0);
+        a.due("2: aB is alike", file(x, 0, "aB"), -2);
         a.due("2: there are files", x.folds(true), false);
         a.due("2: there are files", x.folds(false), false);
         a.due("2: count(2)", x.count(2), 1);
         x.remove(0);
         a.due("2: there are no more", x.folds(false), true);
-        a.due("2: file Ab", Answers.file(x, 0, "Ab"), 1);
-        a.due("2: aB is another one", Answers.file(x, 0, "aB"), 2);
+        a.due("2: file Ab", file(x, 0, "Ab"), 1);
+        a.due("2: aB is another one", file(x, 0, "aB"), 2);
         NameTurner y = folding("a-Z_", "a.Z_");
         a.due("2: only letters are alike", y.count(1), 2);
-        a.due("2: A@ is no letter's pair", Answers.at(y, 0, "A-z_"), 0);
+        a.due("2: A@ is no letter's pair", at(y, 0, "A-z_"), 0);
     }
 
     private static void promise3() {
@@ -98,7 +74,7 @@ public final class PromisesTest {
         a.due("3: feed", x.feed(0x61622E2D, 0x5F303941, 0x5A7A7978, 0x20202020, -1), 20);
         x.end(12);
         a.due("3: highest first", x.file(0), 0);
-        a.due("3: bytes", Answers.of(x, 0), "0/ab.-_09AZzyx");
+        a.due("3: bytes", of(x, 0), "0/ab.-_09AZzyx");
         for (int n = 20; n <= 80; n += 20) {
             a.due("3: feed to " + n, x.feed(1, 2, 3, 4, 5), n);
         }
@@ -108,11 +84,11 @@ public final class PromisesTest {
         a.due("3: 61 and 20", x.feed(1, 2, 3, 4, 5), NONE);
         x.end(60);
         a.due("3: 60 and 20", x.feed(1, 2, 3, 4, 5), 80);
-        NameTurner y = Answers.tape(new NameTurner(), "ab");
+        NameTurner y = tape(new NameTurner(), "ab");
         y.feed(0x63646566, 0, 0, 0, 0);
         y.end(6);
         y.file(3);
-        a.due("3: behind the tape", Answers.of(y, 0), "3/abcdef");
+        a.due("3: behind the tape", of(y, 0), "3/abcdef");
     }
 
     private static void promise4() {
@@ -128,36 +104,36 @@ public final class PromisesTest {
         a.due("4: end(4)", x.end(4), NONE);
         a.due("4: end(2)", x.end(2), 2);
         x.file(0);
-        a.due("4: the first ones", Answers.of(x, 0), "0/ab");
+        a.due("4: the first ones", of(x, 0), "0/ab");
     }
 
     private static void promise5() {
         NameTurner x = new NameTurner();
         a.due("5: empty", x.file(0), NONE);
-        a.due("5: a", Answers.file(x, 0, "a"), 0);
-        a.due("5: 12 bytes", Answers.file(x, 5, "azAZ09.-_xyz"), 1);
-        a.due("5: 13 bytes", Answers.file(x, 5, "azAZ09.-_xyzz"), NONE);
-        a.due("5: folder 6", Answers.file(x, 6, "b"), NONE);
+        a.due("5: a", file(x, 0, "a"), 0);
+        a.due("5: 12 bytes", file(x, 5, "azAZ09.-_xyz"), 1);
+        a.due("5: 13 bytes", file(x, 5, "azAZ09.-_xyzz"), NONE);
+        a.due("5: folder 6", file(x, 6, "b"), NONE);
         a.due("5: the tape is empty", x.count(3), 0);
-        a.due("5: folder -1", Answers.file(x, -1, "b"), NONE);
+        a.due("5: folder -1", file(x, -1, "b"), NONE);
         for (String bad : new String[] {"~0", "a b", "a/b", "a:", "@", "[", "`", "{", ",", "a>b", "\u00e9", "\0"}) {
-            a.due("5: " + bad, Answers.file(x, 0, bad), NONE);
+            a.due("5: " + bad, file(x, 0, bad), NONE);
         }
-        a.due("5: a again", Answers.file(x, 0, "a"), -2);
+        a.due("5: a again", file(x, 0, "a"), -2);
         a.due("5: the tape is empty", x.count(3), 0);
-        a.due("5: A is another", Answers.file(x, 0, "A"), 2);
-        a.due("5: A again", Answers.file(x, 0, "A"), -4);
-        a.due("5: a elsewhere", Answers.file(x, 1, "a"), 3);
+        a.due("5: A is another", file(x, 0, "A"), 2);
+        a.due("5: A again", file(x, 0, "A"), -4);
+        a.due("5: a elsewhere", file(x, 1, "a"), 3);
         x.remove(0);
-        a.due("5: numbers are not given again", Answers.file(x, 0, "a"), 4);
+        a.due("5: numbers are not given again", file(x, 0, "a"), 4);
         for (int i = 5; i < 40; i++) {
-            a.due("5: file " + i, Answers.file(x, 2, "n" + i), i);
+            a.due("5: file " + i, file(x, 2, "n" + i), i);
         }
-        a.due("5: 40 came", Answers.file(x, 3, "z"), NONE);
-        a.due("5: 40 came, and one is alike", Answers.file(x, 0, "a"), NONE);
+        a.due("5: 40 came", file(x, 3, "z"), NONE);
+        a.due("5: 40 came, and one is alike", file(x, 0, "a"), NONE);
         a.due("5: the tape is empty", x.count(3), 0);
         x.remove(39);
-        a.due("5: 40 came still", Answers.file(x, 3, "z"), NONE);
+        a.due("5: 40 came still", file(x, 3, "z"), NONE);
     }
 
     private static void promise6() {
@@ -168,73 +144,73 @@ public final class PromisesTest {
         a.due("6: 0 again", x.remove(0), false);
         a.due("6: count(0)", x.count(0), 2);
         a.due("6: count(1)", x.count(1), 1);
-        a.due("6: at a", Answers.at(x, 0, "a"), NONE);
-        a.due("6: its links stay", Answers.link(x, 0, "b"), 0);
+        a.due("6: at a", at(x, 0, "a"), NONE);
+        a.due("6: its links stay", link(x, 0, "b"), 0);
         x.remove(1);
-        a.due("6: its links stay", Answers.linkOf(x, 0), "0/b");
+        a.due("6: its links stay", linkOf(x, 0), "0/b");
         a.due("6: max", x.remove(Integer.MAX_VALUE), false);
     }
 
     private static void promise7() {
         NameTurner x = folding("a", "b");
-        a.due("7: to c", Answers.hand(x, 0, 4, "c"), 0);
-        a.due("7: it is there", Answers.of(x, 0), "4/c");
+        a.due("7: to c", hand(x, 0, 4, "c"), 0);
+        a.due("7: it is there", of(x, 0), "4/c");
         a.due("7: tape", x.count(3), 0);
-        a.due("7: onto another one", Answers.hand(x, 0, 0, "B"), -3);
+        a.due("7: onto another one", hand(x, 0, 0, "B"), -3);
         a.due("7: tape", x.count(3), 0);
-        a.due("7: it stays", Answers.of(x, 0), "4/c");
-        a.due("7: over itself", Answers.hand(x, 1, 0, "B"), 0);
-        a.due("7: its letter", Answers.of(x, 1), "0/B");
-        a.due("7: no file", Answers.hand(x, 2, 0, "d"), NONE);
+        a.due("7: it stays", of(x, 0), "4/c");
+        a.due("7: over itself", hand(x, 1, 0, "B"), 0);
+        a.due("7: its letter", of(x, 1), "0/B");
+        a.due("7: no file", hand(x, 2, 0, "d"), NONE);
         a.due("7: tape", x.count(3), 0);
-        a.due("7: no folder", Answers.hand(x, 0, 6, "d"), NONE);
-        a.due("7: no folder", Answers.hand(x, 0, -1, "d"), NONE);
-        a.due("7: no name", Answers.hand(x, 0, 0, "~0"), NONE);
+        a.due("7: no folder", hand(x, 0, 6, "d"), NONE);
+        a.due("7: no folder", hand(x, 0, -1, "d"), NONE);
+        a.due("7: no name", hand(x, 0, 0, "~0"), NONE);
         a.due("7: no name", x.hand(0, 0), NONE);
         x.remove(0);
-        a.due("7: no more", Answers.hand(x, 0, 0, "d"), NONE);
-        a.due("7: no more, and another is there", Answers.hand(x, 0, 0, "b"), NONE);
-        Answers.link(x, 0, "B");
-        Answers.link(x, 0, "b");
-        Answers.hand(x, 1, 3, "q");
-        a.due("7: links go along", Answers.linkOf(x, 0), "3/q");
-        a.due("7: only those just there", Answers.linkOf(x, 1), "0/b");
+        a.due("7: no more", hand(x, 0, 0, "d"), NONE);
+        a.due("7: no more, and another is there", hand(x, 0, 0, "b"), NONE);
+        link(x, 0, "B");
+        link(x, 0, "b");
+        hand(x, 1, 3, "q");
+        a.due("7: links go along", linkOf(x, 0), "3/q");
+        a.due("7: only those just there", linkOf(x, 1), "0/b");
     }
 
     private static void promise8() {
         NameTurner x = with("a", "A");
-        a.due("8: a", Answers.at(x, 0, "a"), 0);
+        a.due("8: a", at(x, 0, "a"), 0);
         a.due("8: tape", x.count(3), 0);
-        a.due("8: A", Answers.at(x, 0, "A"), 1);
-        a.due("8: b", Answers.at(x, 0, "b"), NONE);
-        a.due("8: another folder", Answers.at(x, 1, "a"), NONE);
-        a.due("8: no folder", Answers.at(x, 6, "a"), NONE);
+        a.due("8: A", at(x, 0, "A"), 1);
+        a.due("8: b", at(x, 0, "b"), NONE);
+        a.due("8: another folder", at(x, 1, "a"), NONE);
+        a.due("8: no folder", at(x, 6, "a"), NONE);
         a.due("8: tape", x.count(3), 0);
-        a.due("8: no folder", Answers.at(x, -1, "a"), NONE);
+        a.due("8: no folder", at(x, -1, "a"), NONE);
         a.due("8: no name", x.at(0), NONE);
-        a.due("8: a beginning", Answers.at(x, 0, "aa"), NONE);
-        a.due("8: alike", Answers.at(folding("aB"), 0, "Ab"), 0);
+        a.due("8: a beginning", at(x, 0, "aa"), NONE);
+        a.due("8: alike", at(folding("aB"), 0, "Ab"), 0);
     }
 
     private static void promise9() {
         NameTurner x = new NameTurner();
-        a.due("9: a>b", Answers.rule(x, "a>b"), 1);
+        a.due("9: a>b", rule(x, "a>b"), 1);
         a.due("9: tape", x.count(3), 0);
-        a.due("9: 12 items and parts", Answers.rule(x, "?*#?*#?*#?*#>$1^2!3%1$4^5!6%4$7^8!9x"), 12);
-        a.due("9: all bytes", Answers.rule(x, "azAZ09.-_>azAZ09.-_"), 9);
-        a.due("9: > is the 13th byte", Answers.rule(x, "abcdefghijkl>x"), 12);
-        a.due("9: items", Answers.rule(x, "?a#>$2"), 3);
-        Answers.rule(x, "??>$2");
-        Answers.rule(x, "??>$2");
-        a.due("9: an earlier rule's items", Answers.rule(x, "?>$2"), -4);
-        Answers.rule(x, "??>$2");
-        a.due("9: an earlier rule's items", Answers.rule(x, "?>$2"), -4);
+        a.due("9: 12 items and parts", rule(x, "?*#?*#?*#?*#>$1^2!3%1$4^5!6%4$7^8!9x"), 12);
+        a.due("9: all bytes", rule(x, "azAZ09.-_>azAZ09.-_"), 9);
+        a.due("9: > is the 13th byte", rule(x, "abcdefghijkl>x"), 12);
+        a.due("9: items", rule(x, "?a#>$2"), 3);
+        rule(x, "??>$2");
+        rule(x, "??>$2");
+        a.due("9: an earlier rule's items", rule(x, "?>$2"), -4);
+        rule(x, "??>$2");
+        a.due("9: an earlier rule's items", rule(x, "?>$2"), -4);
     }
 
     private static void fault(String text, int answer, int place) {
         NameTurner x = with("ab");
-        Answers.rule(x, "ab>c");
-        a.due("9: rule " + text, Answers.rule(x, text), answer);
+        rule(x, "ab>c");
+        a.due("9: rule " + text, rule(x, text), answer);
         a.due("10: place of " + text, x.place(), place);
         a.due("9: the tape behind " + text, x.count(3), 0);
         a.due("9: the rule behind " + text, x.fits(0, 0), 1);
@@ -282,19 +258,19 @@ public final class PromisesTest {
     private static void promise10() {
         NameTurner x = new NameTurner();
         a.due("10: at first", x.place(), NONE);
-        Answers.rule(x, "ab>");
+        rule(x, "ab>");
         a.due("10: a fault", x.place(), 3);
-        Answers.rule(x, "a~");
+        rule(x, "a~");
         a.due("10: the latest", x.place(), 1);
         a.due("10: asked again", x.place(), 1);
-        Answers.rule(x, "a>b");
+        rule(x, "a>b");
         a.due("10: without one", x.place(), NONE);
     }
 
     private static void promise11() {
         NameTurner x = with("ab12c");
         a.due("11: no rule", x.fits(0, 0), NONE);
-        Answers.rule(x, "*#?>x");
+        rule(x, "*#?>x");
         a.due("11: fits", x.fits(0, 0), 1);
         a.due("11: * took", x.fits(0, 10), 2);
         a.due("11: # took", x.fits(0, 11), 2);
@@ -309,31 +285,31 @@ public final class PromisesTest {
         }
         a.due("11: no file", x.fits(1, 0), NONE);
         a.due("11: no file", x.fits(-1, 0), NONE);
-        Answers.rule(x, "*x>x");
+        rule(x, "*x>x");
         a.due("11: doesn't fit", x.fits(0, 0), 0);
         a.due("11: took", x.fits(0, 10), NONE);
         a.due("11: from", x.fits(0, 30), NONE);
-        Answers.hand(x, 0, 0, "x");
+        hand(x, 0, 0, "x");
         a.due("11: as it is", x.fits(0, 0), 1);
         x.remove(0);
         a.due("11: no more", x.fits(0, 0), NONE);
         NameTurner y = folding("Ab");
-        Answers.rule(y, "ab>c");
+        rule(y, "ab>c");
         a.due("11: a byte takes itself", y.fits(0, 0), 0);
         NameTurner z = with("1", "0");
         plan(z, "#>%1");
-        Answers.hand(z, 0, 0, "2");
-        Answers.hand(z, 1, 0, "1");
+        hand(z, 0, 0, "2");
+        hand(z, 1, 0, "1");
         plan(z, "#>%1");
         z.go(1);
-        Answers.rule(z, "?#>x");
+        rule(z, "?#>x");
         a.due("11: a spare name as it is", z.fits(0, 0), 1);
     }
 
     /** How many bytes each item of a rule took of a name, or no. */
     private static String took(String name, String items) {
         NameTurner x = with(name);
-        int count = Answers.rule(x, items + ">x");
+        int count = rule(x, items + ">x");
         if (x.fits(0, 0) == 0) {
             return "no";
         }
@@ -367,7 +343,7 @@ public final class PromisesTest {
     private static void promise12() {
         NameTurner x = with("a1", "b2", "c");
         a.due("12: no rule", x.plan(0, 0, 1, 1, false), NONE);
-        Answers.rule(x, "*#>$2$1");
+        rule(x, "*#>$2$1");
         int[][] bad = {{-1, 0, 1, 1}, {6, 0, 1, 1}, {0, -1, 1, 1}, {0, 6, 1, 1}, {0, 0, -1, 1},
             {0, 0, 1000, 1}, {0, 0, 1, 0}, {0, 0, 1, -1}, {0, 0, 1, 100}};
         for (int[] b : bad) {
@@ -389,15 +365,15 @@ public final class PromisesTest {
         a.due("12: all done", x.plan(0, 0, 0, 1, false), 0);
         NameTurner y = with("a", "b", "c");
         y.remove(1);
-        Answers.rule(y, "*>%1");
+        rule(y, "*>%1");
         a.due("12: without those that are no more", y.plan(0, 0, 0, 1, false), 2);
         a.due("12: the second", y.planned(1, 0), 2);
-        Answers.rule(y, "a>q");
-        a.due("12: a plan keeps its rule", Answers.newName(y, 1), "1");
+        rule(y, "a>q");
+        a.due("12: a plan keeps its rule", newName(y, 1), "1");
     }
 
     private static String order(NameTurner x, boolean byNames) {
-        Answers.rule(x, "*>%1");
+        rule(x, "*>%1");
         int size = x.plan(0, 0, 1, 1, byNames);
         StringBuilder s = new StringBuilder();
         for (int k = 0; k < size; k++) {
@@ -415,7 +391,7 @@ public final class PromisesTest {
 
     private static void promise13() {
         NameTurner x = with("a7", "b", "a10");
-        Answers.rule(x, "a#>n$1%3");
+        rule(x, "a#>n$1%3");
         a.due("13: no plan", x.planned(0, 0), NONE);
         x.plan(0, 3, 998, 7, false);
         int[] first = {0, 0, NONE, 3, 5, 0, 998, NONE};
@@ -458,7 +434,7 @@ public final class PromisesTest {
 
     private static void promise13Rivals() {
         NameTurner x = with("c1", "b1", "a1");
-        Answers.rule(x, "??>x");
+        rule(x, "??>x");
         x.plan(0, 0, 1, 1, true);
         trouble(x, 0, 2, 1);
         trouble(x, 1, 2, 2);
@@ -493,8 +469,8 @@ public final class PromisesTest {
         trouble(x, 0, 3, 1);
         plan(x, "?1>$1");
         trouble(x, 0, 0, NONE);
-        Answers.file(x, 4, "c");
-        Answers.rule(x, "?1>$1");
+        file(x, 4, "c");
+        rule(x, "?1>$1");
         x.plan(0, 4, 1, 1, false);
         trouble(x, 0, 0, NONE);
         trouble(x, 1, 3, 3);
@@ -548,9 +524,9 @@ public final class PromisesTest {
 
     private static void newNameDue(String name, String rule, int start, String want) {
         NameTurner x = with(name);
-        Answers.rule(x, rule);
+        rule(x, rule);
         x.plan(0, 0, start, 1, false);
-        a.due("14: " + name + " by " + rule, Answers.newName(x, 0), want);
+        a.due("14: " + name + " by " + rule, newName(x, 0), want);
     }
 
     private static void promise14() {
@@ -572,12 +548,12 @@ public final class PromisesTest {
         newNameDue("a1b2c3d4e5f6", "????????????>$9$8$7$1", 1, "e4da");
         NameTurner x = with("a", "b");
         a.due("14: no plan", x.newName(0, 0), NONE);
-        Answers.rule(x, "*>%4");
+        rule(x, "*>%4");
         x.plan(0, 0, 999, 99, false);
-        a.due("14: over 999", Answers.newName(x, 1), "1098");
-        Answers.rule(x, "*>%3");
+        a.due("14: over 999", newName(x, 1), "1098");
+        rule(x, "*>%3");
         x.plan(0, 0, 999, 1, false);
-        a.due("14: just 1000", Answers.newName(x, 1), "1000");
+        a.due("14: just 1000", newName(x, 1), "1000");
         a.due("14: behind the end", x.newName(0, 4), NONE);
         a.due("14: -1", x.newName(0, -1), NONE);
         a.due("14: no such one", x.newName(2, 0), NONE);
@@ -620,9 +596,9 @@ public final class PromisesTest {
     }
 
     private static void stepsDue(NameTurner x, String rule, int start, boolean byNames, String want) {
-        Answers.rule(x, rule);
+        rule(x, rule);
         x.plan(0, 0, start, 1, byNames);
-        a.due("16: steps by " + rule, Answers.steps(x), want);
+        a.due("16: steps by " + rule, steps(x), want);
     }
 
     private static void promise16Rings() {
@@ -646,16 +622,16 @@ public final class PromisesTest {
         stepsDue(again, "#>%1", 1, false, "");
         NameTurner x = new NameTurner();
         for (char c = 'b'; c <= 'u'; c++) {
-            Answers.file(x, 0, "a" + c);
-            Answers.file(x, 0, c + "a");
+            file(x, 0, "a" + c);
+            file(x, 0, c + "a");
         }
-        Answers.rule(x, "??>$2$1");
+        rule(x, "??>$2$1");
         a.due("16: 40 in twenty rings", x.plan(0, 0, 1, 1, false), 40);
         a.due("16: three steps a ring", x.steps(), 60);
         a.due("16: all are done", x.go(60), 60);
-        a.due("16: the last one", Answers.of(x, 39), "0/au");
+        a.due("16: the last one", of(x, 39), "0/au");
         a.due("16: and taken back", x.back(60), 60);
-        a.due("16: as at first", Answers.of(x, 39), "0/ua");
+        a.due("16: as at first", of(x, 39), "0/ua");
     }
 
     private static void promise17() {
@@ -667,28 +643,28 @@ public final class PromisesTest {
         a.due("17: -1", x.go(-1), NONE);
         a.due("17: 0", x.go(0), 0);
         a.due("17: 1", x.go(1), 1);
-        a.due("17: spare", Answers.of(x, 0), "0/~0");
+        a.due("17: spare", of(x, 0), "0/~0");
         a.due("17: 1", x.go(1), 1);
-        a.due("17: the other", Answers.of(x, 1), "0/2");
+        a.due("17: the other", of(x, 1), "0/2");
         a.due("17: max", x.go(Integer.MAX_VALUE), 1);
-        a.due("17: from spare", Answers.of(x, 0), "0/1");
+        a.due("17: from spare", of(x, 0), "0/1");
         a.due("17: all done", x.go(1), 0);
         NameTurner y = with("a", "b", "c");
-        Answers.rule(y, "?>$1$1");
+        rule(y, "?>$1$1");
         y.plan(0, 2, 0, 1, false);
         y.remove(1);
         a.due("17: up to the stuck one", y.go(3), 1);
-        a.due("17: another folder", Answers.of(y, 0), "2/aa");
-        a.due("17: no more", Answers.of(y, 2), "0/c");
+        a.due("17: another folder", of(y, 0), "2/aa");
+        a.due("17: no more", of(y, 2), "0/c");
         a.due("17: done", y.count(6), 1);
         NameTurner z = new NameTurner();
         for (int i = 0; i < 12; i++) {
-            Answers.file(z, 5, "f" + (i == 10 ? 11 : i == 11 ? 10 : i));
+            file(z, 5, "f" + (i == 10 ? 11 : i == 11 ? 10 : i));
         }
-        Answers.rule(z, "f1#>f%2");
+        rule(z, "f1#>f%2");
         z.plan(5, 5, 10, 1, false);
         z.go(1);
-        a.due("17: a spare name of two figures", Answers.of(z, 10), "5/~10");
+        a.due("17: a spare name of two figures", of(z, 10), "5/~10");
     }
 
     private static void promise18() {
@@ -702,12 +678,12 @@ public final class PromisesTest {
         a.due("18: -1", x.back(-1), NONE);
         a.due("18: 0", x.back(0), 0);
         a.due("18: the latest first", x.back(1), 1);
-        a.due("18: spare again", Answers.of(x, 0), "0/~0");
+        a.due("18: spare again", of(x, 0), "0/~0");
         a.due("18: max", x.back(Integer.MAX_VALUE), 2);
-        a.due("18: as at first", Answers.of(x, 0), "0/2");
-        a.due("18: as at first", Answers.of(x, 1), "0/1");
+        a.due("18: as at first", of(x, 0), "0/2");
+        a.due("18: as at first", of(x, 1), "0/1");
         a.due("18: go again", x.go(9), 3);
-        Answers.hand(x, 1, 1, "q");
+        hand(x, 1, 1, "q");
         a.due("18: stuck in the midst", x.back(9), 1);
         a.due("18: done", x.count(6), 2);
     }
@@ -715,7 +691,7 @@ public final class PromisesTest {
     private static void promise19() {
         NameTurner x = with("a", "b");
         plan(x, "?>$1$1");
-        Answers.hand(x, 1, 0, "c");
+        hand(x, 1, 0, "c");
         a.due("19: go", x.go(2), 1);
         a.due("19: it isn't where it was", x.stuck(), 2);
         x.go(-1);
@@ -727,11 +703,11 @@ public final class PromisesTest {
         x.remove(1);
         x.go(1);
         a.due("19: no more", x.stuck(), 1);
-        Answers.file(x, 0, "a");
+        file(x, 0, "a");
         x.back(1);
         a.due("19: another lies there", x.stuck(), 3);
-        a.due("19: nothing changed", Answers.of(x, 0), "0/aa");
-        Answers.hand(x, 0, 1, "aa");
+        a.due("19: nothing changed", of(x, 0), "0/aa");
+        hand(x, 0, 1, "aa");
         x.back(1);
         a.due("19: another folder first", x.stuck(), 2);
         x.remove(0);
@@ -744,13 +720,13 @@ public final class PromisesTest {
         a.due("19: NONE leaves it", x.stuck(), 1);
         NameTurner y = folding("a");
         plan(y, "a>b");
-        Answers.file(y, 0, "B");
+        file(y, 0, "B");
         y.go(1);
         a.due("19: alike is enough", y.stuck(), 3);
-        Answers.hand(y, 0, 0, "A");
+        hand(y, 0, 0, "A");
         y.go(1);
         a.due("19: its place must be just that", y.stuck(), 2);
-        Answers.rule(y, "q>r");
+        rule(y, "q>r");
         y.plan(0, 0, 0, 1, false);
         a.due("19: a new plan leaves it", y.stuck(), 2);
         y.go(5);
@@ -759,62 +735,62 @@ public final class PromisesTest {
 
     private static void promise20() {
         NameTurner x = with("a");
-        a.due("20: a", Answers.link(x, 0, "a"), 0);
+        a.due("20: a", link(x, 0, "a"), 0);
         a.due("20: tape", x.count(3), 0);
-        a.due("20: no file there", Answers.link(x, 5, "zz"), 1);
-        a.due("20: twice", Answers.link(x, 0, "a"), 2);
-        a.due("20: folder 6", Answers.link(x, 6, "a"), NONE);
+        a.due("20: no file there", link(x, 5, "zz"), 1);
+        a.due("20: twice", link(x, 0, "a"), 2);
+        a.due("20: folder 6", link(x, 6, "a"), NONE);
         a.due("20: tape", x.count(3), 0);
-        a.due("20: folder -1", Answers.link(x, -1, "a"), NONE);
-        a.due("20: no name", Answers.link(x, 0, "~0"), NONE);
+        a.due("20: folder -1", link(x, -1, "a"), NONE);
+        a.due("20: no name", link(x, 0, "~0"), NONE);
         a.due("20: no name", x.link(0), NONE);
         for (int i = 3; i < 30; i++) {
-            a.due("20: link " + i, Answers.link(x, 1, "l" + i), i);
+            a.due("20: link " + i, link(x, 1, "l" + i), i);
         }
-        a.due("20: 30 are there", Answers.link(x, 1, "m"), NONE);
+        a.due("20: 30 are there", link(x, 1, "m"), NONE);
         a.due("20: tape", x.count(3), 0);
     }
 
     private static void promise20Going() {
         NameTurner x = with("2", "1");
-        Answers.link(x, 0, "1");
-        Answers.link(x, 0, "2");
-        Answers.link(x, 1, "2");
+        link(x, 0, "1");
+        link(x, 0, "2");
+        link(x, 1, "2");
         plan(x, "#>%1");
         x.go(1);
-        a.due("20: a link at a spare name", Answers.linkOf(x, 1), "0/~0");
+        a.due("20: a link at a spare name", linkOf(x, 1), "0/~0");
         x.go(2);
-        a.due("20: went along", Answers.linkOf(x, 0), "0/2");
-        a.due("20: went along", Answers.linkOf(x, 1), "0/1");
-        a.due("20: another folder", Answers.linkOf(x, 2), "1/2");
+        a.due("20: went along", linkOf(x, 0), "0/2");
+        a.due("20: went along", linkOf(x, 1), "0/1");
+        a.due("20: another folder", linkOf(x, 2), "1/2");
         x.back(3);
-        a.due("20: came back", Answers.linkOf(x, 0), "0/1");
-        a.due("20: came back", Answers.linkOf(x, 1), "0/2");
+        a.due("20: came back", linkOf(x, 0), "0/1");
+        a.due("20: came back", linkOf(x, 1), "0/2");
         NameTurner y = with("a");
-        Answers.link(y, 0, "a");
-        Answers.link(y, 3, "b");
-        Answers.rule(y, "a>b");
+        link(y, 0, "a");
+        link(y, 3, "b");
+        rule(y, "a>b");
         y.plan(0, 3, 0, 1, false);
         y.go(1);
         y.back(1);
-        a.due("20: one that was there goes back too", Answers.linkOf(y, 1), "0/a");
+        a.due("20: one that was there goes back too", linkOf(y, 1), "0/a");
         NameTurner z = folding("a");
-        Answers.link(z, 0, "A");
-        Answers.hand(z, 0, 0, "b");
-        a.due("20: alike is not just there", Answers.linkOf(z, 0), "0/A");
+        link(z, 0, "A");
+        hand(z, 0, 0, "b");
+        a.due("20: alike is not just there", linkOf(z, 0), "0/A");
     }
 
     private static void promise21() {
         NameTurner x = folding("ab");
-        Answers.link(x, 0, "ab");
-        Answers.link(x, 4, "A.-_");
-        Answers.link(x, 0, "AB");
+        link(x, 0, "ab");
+        link(x, 4, "A.-_");
+        link(x, 0, "AB");
         a.due("21: folder", x.linkOf(1, 0), 4);
         a.due("21: file", x.linkOf(0, 1), 0);
         a.due("21: none", x.linkOf(1, 1), NONE);
         a.due("21: just there", x.linkOf(2, 1), NONE);
         a.due("21: bytes", x.linkOf(1, 2), 4);
-        a.due("21: name", Answers.linkOf(x, 1), "4/A.-_");
+        a.due("21: name", linkOf(x, 1), "4/A.-_");
         for (int what : new int[] {-1, 3, 9, 14, Integer.MAX_VALUE, Integer.MIN_VALUE}) {
             a.due("21: what " + what, x.linkOf(1, what), NONE);
         }
@@ -822,13 +798,13 @@ public final class PromisesTest {
         a.due("21: link -1", x.linkOf(-1, 0), NONE);
         x.remove(0);
         a.due("21: no more", x.linkOf(0, 1), NONE);
-        Answers.file(x, 0, "ab");
+        file(x, 0, "ab");
         a.due("21: another one now", x.linkOf(0, 1), 1);
     }
 
     private static void promise22() {
         NameTurner x = with("2", "1");
-        Answers.file(x, 5, "a.-_");
+        file(x, 5, "a.-_");
         a.due("22: folder", x.of(2, 0), 5);
         a.due("22: bytes", x.of(2, 1), 4);
         a.due("22: spare", x.of(2, 2), 0);
@@ -842,7 +818,7 @@ public final class PromisesTest {
         plan(x, "#>%1");
         x.go(1);
         a.due("22: spare", x.of(0, 2), 1);
-        Answers.hand(x, 0, 0, "q");
+        hand(x, 0, 0, "q");
         a.due("22: no more spare", x.of(0, 2), 0);
         x.remove(0);
         a.dueThrows(x, 0, 0);
@@ -851,7 +827,7 @@ public final class PromisesTest {
     private static void promise23() {
         NameTurner x = with("2", "1", "a", "b");
         x.remove(2);
-        Answers.link(x, 0, "a");
+        link(x, 0, "a");
         plan(x, "#>%1");
         x.go(1);
         x.feed(0, 0, 0, 0, 0);
