@@ -29,6 +29,11 @@ final class RuleCallSentences extends Calls {
         rule(shorter, "????????????>abcdefghijkl");
         rule(shorter, "??>$2$1");
         a.due("nothing is left of a longer one", took(shorter, 0), "1 1");
+        for (int n = 12; n >= 1; n--) {
+            rule(shorter, "*".repeat(n) + ">x");
+            a.due("nor of what it took", took(shorter, 0), "0 ".repeat(n - 1) + "2");
+        }
+        rule(shorter, "??>$2$1");
         shorter.plan(0, 0, 0, 1, false);
         a.due("nor of its parts", newName(shorter, 0), "ba");
         NameTurner under = planned(with("a", "b"), "?>$1x");
