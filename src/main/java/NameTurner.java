@@ -160,7 +160,7 @@ public final class NameTurner {
         }
         plan.begin();
         int inFolder = store.list(folder, byNames);
-        for (int i = 0; i < inFolder; i++) {
+        for (int i = 0; i < inFolder && !plan.isFull(); i++) {
             int file = store.listed(i);
             if (store.has(file) && fit.match(rule, store.placeOf(file))) {
                 Planned next = plan.add(file, store.placeOf(file), start + plan.size() * step);
@@ -1032,7 +1032,11 @@ public final class NameTurner {
             done = 0;
         }
 
-        /** Only for files that are not planned yet, of which there are no more than rows. */
+        boolean isFull() {
+            return size >= all.length;
+        }
+
+        /** Only while it is not full. */
         Planned add(int file, Place lies, int counter) {
             Planned next = all[size];
             next.begin(file, lies, counter);
